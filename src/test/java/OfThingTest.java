@@ -44,6 +44,20 @@ public final class OfThingTest {
         Check.due("tail of 1 is open", x.ofThing(1, 10), 0);
     }
 
+    private static void openByTheFirstAndCutTheLast() {
+        OwnedThings x = Check.with("o;pw;pw,w1,01,w0");
+        Check.due("open by the first reference", x.ofThing(0, 10), 0);
+        x.refer(6, 0);
+        x.refer(6, 1);
+        Check.due("closed", x.ofThing(0, 10), 1);
+        x.refer(0, 1);
+        Check.due("the last is cut", x.ofThing(0, 4), 0);
+        Check.due("the last is cut", x.ofThing(0, 9), 1);
+        OwnedThings y = Check.with("o;pw");
+        Check.due("the world, if there is one thing", y.refers(6, 0), 0);
+        Check.due("the world, if there is one thing", y.own(0, 6), 6);
+    }
+
     private static void levelsAndLocks() {
         OwnedThings x = Check.with("o;dw;d0;d1;d2;d3;d4");
         for (int t = 0; t < 6; t++) {
@@ -88,6 +102,7 @@ public final class OfThingTest {
         sixThings();
         notReached();
         roundTrips();
+        openByTheFirstAndCutTheLast();
         levelsAndLocks();
         referencesAndPlaces();
         Check.finish();

@@ -17,6 +17,9 @@ public final class TextTest {
     private static void firstFaults() {
         text("", -100);
         text("O", -100);
+        text(";pw", -100);
+        text("opw", -101);
+        text("o;pww0", -104);
         text("o", -101);
         text("o,", -101);
         text("o;", -102);

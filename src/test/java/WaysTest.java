@@ -11,6 +11,9 @@ public final class WaysTest {
         Check.due("unlawful() with more ways", x.unlawful(), Check.set(1, 3));
         x.refer(6, 0);
         Check.due("unlawful(): 0 is not reached", x.unlawful(), Check.set(1));
+        x.refer(6, 0);
+        x.own(0, 4);
+        Check.due("unlawful() of 0", x.unlawful(), Check.set(0, 1, 3));
     }
 
     private static void past(OwnedThings x, int t, int... stops) {
@@ -66,6 +69,7 @@ public final class WaysTest {
         Check.due("up to a lower one", locks(x, 0, 1, 3, 2), 2);
         Check.due("the one ahead counts, not the greatest", locks(x, 2, 0, 1), 1);
         Check.due("the world", locks(x, 0, 6), Check.UNKNOWN);
+        Check.due("the world ahead", locks(x, 6, 0), Check.UNKNOWN);
         Check.due("no thing behind the end of the order", locks(x, 0, 0, -1), Check.UNKNOWN);
         Check.due("no fault", x.fault(), 0);
         int[] long20 = new int[20];
