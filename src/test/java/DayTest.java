@@ -22,6 +22,7 @@ public final class DayTest {
         Check.due("no act, first wrong", day(x, 1), Check.NONE);
         Check.due("cut off", day(x, 3, 0, 6, 0), Check.set(3, 4, 5));
         Check.due("thing 0 handed", day(x, 10, 2, 0, 4), 4);
+        Check.due("a reference of thing 0 handed", day(x, 11, 2, 1, 4), 4);
         Check.due("the world's reference handed", day(x, 3, 2, 0, 4), 63);
         Check.due("the greatest lock is that of 0", day(Check.with("o;dw;pw"), 4), 2);
         OwnedThings y = Check.with("o;pw;p0");

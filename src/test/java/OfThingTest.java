@@ -53,6 +53,12 @@ public final class OfThingTest {
         x.refer(0, 1);
         Check.due("the last is cut", x.ofThing(0, 4), 0);
         Check.due("the last is cut", x.ofThing(0, 9), 1);
+        OwnedThings z = Check.with("o;pw;p0,01,w1");
+        Check.due("past 0", z.past(1, -1), 1);
+        Check.due("open by the last reference", z.ofThing(0, 10), 0);
+        z.refer(6, 1);
+        Check.due("the last is cut", z.past(1, -1), Check.NONE);
+        Check.due("the last is cut", z.ofThing(0, 10), 1);
         OwnedThings y = Check.with("o;pw");
         Check.due("the world, if there is one thing", y.refers(6, 0), 0);
         Check.due("the world, if there is one thing", y.own(0, 6), 6);
