@@ -523,7 +523,7 @@ public final class OwnedThings {
     }
 
     private static boolean holds(int set, int k) {
-        return (set & bit(k)) != 0;
+        return (set & 1 << k) != 0;
     }
 
     /** The things with their kinds, owners and references, and what follows from them. */
@@ -959,11 +959,11 @@ public final class OwnedThings {
         }
 
         int valueAt(int i) {
-            return hasCells(i, 1) ? cells[i] : 0;
+            return i >= 0 && i < length ? cells[i] : 0;
         }
 
         void setAt(int i, int v) {
-            if (hasCells(i, 1)) {
+            if (i >= 0 && i < length) {
                 cells[i] = cutToLane(v);
             }
         }
@@ -1018,11 +1018,8 @@ public final class OwnedThings {
             length = n;
             at = 0;
             web.clear();
-            return isRead() ? TAKEN : at;
-        }
-
-        private boolean isRead() {
-            return isTaken(BEGIN) && areThingsRead() && areReferencesRead() && at == length;
+            boolean whole = isTaken(BEGIN) && areThingsRead() && areReferencesRead() && at == length;
+            return whole ? TAKEN : at;
         }
 
         private boolean areThingsRead() {

@@ -24,6 +24,7 @@ public final class FaceTest {
     };
 
     private static void members() {
+        Check.test("the public face, word for word");
         Set<String> due = new TreeSet<>(Set.of(FACE));
         Set<String> got = new TreeSet<>();
         for (Method method : OwnedThings.class.getDeclaredMethods()) {
@@ -61,6 +62,7 @@ public final class FaceTest {
     }
 
     private static void fields() {
+        Check.test("the constants; no static state");
         Set<String> due = Set.of(CONSTANTS);
         int seen = 0;
         for (Field field : OwnedThings.class.getDeclaredFields()) {
@@ -84,6 +86,7 @@ public final class FaceTest {
     }
 
     private static void classesInside() {
+        Check.test("classes inside are static, and some twelve at most");
         Class<?>[] inside = OwnedThings.class.getDeclaredClasses();
         Check.due("some twelve classes at most", inside.length <= 11 ? 1 : 0, 1);
         for (Class<?> type : inside) {
@@ -95,8 +98,43 @@ public final class FaceTest {
         }
     }
 
+    private static void sizes() {
+        Check.test("seven parameters at most, some twenty fields");
+        sizesOf(OwnedThings.class);
+        for (Class<?> type : OwnedThings.class.getDeclaredClasses()) {
+            sizesOf(type);
+        }
+    }
+
+    private static void sizesOf(Class<?> type) {
+        int fields = 0;
+        for (Field field : type.getDeclaredFields()) {
+            fields += Modifier.isStatic(field.getModifiers()) ? 0 : 1;
+        }
+        Check.due(type + " has some twenty fields at most", fields <= 20 ? 1 : 0, 1);
+        for (Method method : type.getDeclaredMethods()) {
+            Check.due(method + " takes seven parameters at most", method.getParameterCount() <= 7 ? 1 : 0, 1);
+        }
+    }
+
+    private static void methodLengths(String source) {
+        Check.test("methods have some sixty lines at most");
+        int open = -1;
+        String[] lines = source.split("\n");
+        for (int at = 0; at < lines.length; at++) {
+            if (lines[at].matches("( {4}| {8})\\S.*\\) \\{")) {
+                open = at;
+            } else if (open >= 0 && lines[at].matches("( {4}| {8})\\}")) {
+                Check.due("lines of " + lines[open].trim(), at - open < 60 ? 1 : 0, 1);
+                open = -1;
+            }
+        }
+    }
+
     private static void text() throws Exception {
         String source = Files.readString(Path.of("src/main/java/OwnedThings.java"));
+        methodLengths(source);
+        Check.test("words that the rules leave out, signs beyond ASCII");
         // What comments say does not count.
         String code = source.replaceAll("(?s)/\\*.*?\\*/", "").replaceAll("//[^\n]*", "");
         for (String word : FORBIDDEN) {
@@ -109,6 +147,7 @@ public final class FaceTest {
         members();
         fields();
         classesInside();
+        sizes();
         text();
         Check.finish();
     }

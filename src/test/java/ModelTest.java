@@ -194,6 +194,7 @@ public final class ModelTest {
     }
 
     public static void main(String[] args) {
+        Check.test("long runs of calls beside the model");
         ModelTest test = new ModelTest();
         for (int number = 1; number <= RUNS; number++) {
             test.runOne(number);
