@@ -46,6 +46,10 @@ public final class DayTest {
         day("a THING is HANDED: who OWNS it", 4, 12, 2, 2, 4);
         day("a THING is HANDED: as many REFERENCES", 8, 0, 2, 2, 4);
         day("a THING is HANDED by THE WORLD", 4, 10, 2, 0, 4);
+        day("a THING is HANDED to which THING 0 referred", 4, 11, 2, 1, 4);
+        day("a THING that THING 0 OWNED is OWNED anew", 4, 11, 1, 1, 4);
+        day("HANDED to THING 0", Check.with("o;pw;pw,w1"), 0, 11, 2, 1, 0);
+        day("OWNED by THING 0", Check.with("o;pw;pw,w1"), 0, 11, 1, 1, 0);
         day("HANDED: what is REACHED then", 63, 3, 2, 0, 4);
         day("THING 0 is HANDED on", 3, 10, 2, 0, 4, 1, 3, 6, 0, 0, 3, 2, 0, 3);
         day("one of twelve is cut, another made", Check.with(Check.TWELVE), 12, 0, 0, 0, 1, 0, 6, 0);

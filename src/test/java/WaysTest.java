@@ -14,6 +14,13 @@ public final class WaysTest {
         unlawful("five of six", "o;pw;p0;p0;p0;p0;p0,w1,w2,w3,w4,w5", 1, 2, 3, 4, 5);
         Check.keeps("10 unlawful: STATE: there are no THINGS", new OwnedThings(), Check.STATE, Check.KEPT, OwnedThings::unlawful);
         Check.keeps("10 unlawful: changes nothing", Check.full(), 8, Check.KEPT, OwnedThings::unlawful);
+        Check.test("11 past: to the first thing, owned anew");
+        OwnedThings first = Check.with("o;pw;pw;pw,w2,21,10");
+        first.own(0, 2);
+        Check.due("its owner is on the way", first.past(0, -1), Check.NONE);
+        first.refer(6, 1);
+        Check.due("how many", first.past(0, -1), 2);
+        Check.due("the last of it", first.past(0, 1), 0);
         Check.test("10 unlawful: of what is owned anew");
         OwnedThings x = Check.with(Check.SIX);
         x.own(3, 1);
@@ -46,6 +53,9 @@ public final class WaysTest {
         past("its OWNER is not REACHED", "o;pw;p0,w1", 1, 1);
         past("a way of one", "o;pw;p0,w0,01,w1", 1, 1);
         past("a way of three", Check.SIX, 3, 4, 5, 3);
+        past("a way by the first thing", "o;pw;pw;p1,w0,w1,12,02", 2, 0, 2);
+        past("a way by the first thing, that is not the first stop", "o;pw;pw;pw;p1,w2,20,w1,13,03", 3, 2, 0, 3);
+        past("a way to the first thing", "o;pw;pw;pw,w2,21,10", 0);
         past("the longest way, of five", "o;pw;pw;pw;pw;pw;p0,w1,12,23,34,45,w0,05", 5, 1, 2, 3, 4, 5);
         past("the longest way of the first thing", "o;pw;pw;p1;p1;p1;p1,w5,54,43,32,20", 2, 5, 4, 3, 2);
         past("the fewest ahead of lower numbers", "o;pw;pw;pw;pw;pw;p0,w1,12,25,w4,45", 5, 4, 5);
