@@ -4,8 +4,12 @@ import java.lang.reflect.Method;
 import java.lang.reflect.Modifier;
 import java.nio.file.Files;
 import java.nio.file.Path;
+import java.util.Map;
 import java.util.Set;
+import java.util.TreeMap;
 import java.util.TreeSet;
+import java.util.regex.Matcher;
+import java.util.regex.Pattern;
 
 /** The public face, word for word, and those rules of the language that a text shows. */
 public final class FaceTest {
@@ -131,12 +135,59 @@ public final class FaceTest {
         }
     }
 
+    /** Whom each method calls, by names alone; methods of one name count as one. */
+    private static Map<String, Set<String>> callsOf(String code) {
+        Pattern begin = Pattern.compile("( {4}| {8})[^ ={}][^={}]*\\b(\\w+)\\([^()]*\\) \\{");
+        Pattern call = Pattern.compile("\\b(\\w+)\\(");
+        Map<String, Set<String>> calls = new TreeMap<>();
+        Set<String> ofThis = new TreeSet<>();
+        for (String line : code.split("\n")) {
+            Matcher method = begin.matcher(line);
+            if (method.matches()) {
+                ofThis = calls.computeIfAbsent(method.group(2), name -> new TreeSet<>());
+                continue;
+            }
+            Matcher called = call.matcher(line);
+            while (called.find()) {
+                ofThis.add(called.group(1));
+            }
+        }
+        return calls;
+    }
+
+    private static int depthOf(String name, Map<String, Set<String>> calls, int limit) {
+        int deepest = 0;
+        if (limit > 0) {
+            for (String called : calls.get(name)) {
+                if (calls.containsKey(called)) {
+                    deepest = Math.max(deepest, depthOf(called, calls, limit - 1));
+                }
+            }
+        }
+        return deepest + 1;
+    }
+
+    private static void callDepths(String code) {
+        Check.test("calls go at most eight deep");
+        Map<String, Set<String>> calls = callsOf(code);
+        for (Class<?> type : OwnedThings.class.getDeclaredClasses()) {
+            for (Method method : type.getDeclaredMethods()) {
+                Check.due(method + " is seen", calls.containsKey(method.getName()) ? 1 : 0, 1);
+            }
+        }
+        Check.due("what is seen of things", depthOf("things", calls, 9) > 4 ? 1 : 0, 1);
+        for (String name : calls.keySet()) {
+            Check.due("depth of " + name, depthOf(name, calls, 9) <= 8 ? 1 : 0, 1);
+        }
+    }
+
     private static void text() throws Exception {
         String source = Files.readString(Path.of("src/main/java/OwnedThings.java"));
         methodLengths(source);
-        Check.test("words that the rules leave out, signs beyond ASCII");
         // What comments say does not count.
         String code = source.replaceAll("(?s)/\\*.*?\\*/", "").replaceAll("//[^\n]*", "");
+        callDepths(code);
+        Check.test("words that the rules leave out, signs beyond ASCII");
         for (String word : FORBIDDEN) {
             Check.due("without " + word, code.contains(word) ? 1 : 0, 0);
         }
